@@ -7,8 +7,8 @@ public final class DeadlocksTest {
     private static final int QUEUED = LockManager.QUEUED;
     private static final int ABORTED = LockManager.ABORTED;
 
-    // 5 asks for 0, which 0 and 7 share, while both wait for 5: two rings of two.
-    private static final String TWO_RINGS = "b5;b0;b7;s00;s70;x51;x01;s71;";
+    // 0 and 7 share the resource 0, and both wait for 5, which has more work.
+    private static final String TWO_RINGS = "b5;b0;b7;s00;s70;x51;w5,9;x01;s71";
 
     public static void main(String[] args) {
         promise3GreatestBirthAmongEqualWork();
@@ -74,12 +74,9 @@ public final class DeadlocksTest {
     }
 
     private static void promise3SeveralRings() {
-        LockManager m = Setup.ran(TWO_RINGS + "b1");
-        Setup.run(m, "s10");
-        m.rollBack(1);
-        LockManager n = Setup.ran("b5;b0;b7;s00;s70;x51;w5,9;x01;s71");
-        asked("two rings of two", n, 5, 0, EXCLUSIVE, 0b10000001, GRANTED);
-        CHECK.due("the work of both is lost", 2, n.lostWork());
+        LockManager m = Setup.ran(TWO_RINGS);
+        asked("two rings of two", m, 5, 0, EXCLUSIVE, 0b10000001, GRANTED);
+        CHECK.due("the work of both is lost", 2, m.lostWork());
         LockManager three = Setup.ran("b0;b1;b2;b3;s00;s10;s20;x31;w3,1;s01;s11;s21");
         asked("three rings of two", three, 3, 0, EXCLUSIVE, 0b0111, GRANTED);
     }
@@ -99,7 +96,7 @@ public final class DeadlocksTest {
     }
 
     private static void promise3LowestAtTheThirdPlace() {
-        // 3 waits for 4, which shares 1 with 2; 2 and 4 ... : rings 0 -> 3 -> 2 -> 0 and 0 -> 3 -> 4 -> 0.
+        // The rings are 0 -> 3 -> 2 -> 0 and 0 -> 3 -> 4 -> 0.
         LockManager m = Setup.ran("b0;b2;b3;b4;w0,50;w3,60;w2,70;x00;x31;s22;s42");
         Setup.run(m, "x32;x20;x40");
         asked("the lower number at the third place", m, 0, 1, SHARED, 0b00001, ABORTED);
@@ -147,34 +144,25 @@ public final class DeadlocksTest {
     }
 
     private static void promise3AllSpared() {
-        LockManager m = abortedTwice();
-        Setup.run(m, "x13;x03;x10");
-        CHECK.due("0 was aborted instead", 1, m.abortsOf(0));
-        Setup.run(m, "x04;x14;x03");
-        CHECK.due("0 was aborted a second time", 2, m.abortsOf(0));
-        Setup.run(m, "c1;b1;b2;x15;x25");
-        m.rollBack(2);
-        m.rollBack(1);
-        LockManager all = bothSpared();
-        asked("all are spared: the least work", all, 1, 5, EXCLUSIVE, 0b01, GRANTED);
-        CHECK.due("a third abort", 3, all.abortsOf(0));
+        LockManager least = bothSpared();
+        Setup.run(least, "x05;x16;w1,1;x06");
+        asked("all are spared: the least work", least, 1, 5, EXCLUSIVE, 0b01, GRANTED);
+        CHECK.due("a third abort", 3, least.abortsOf(0));
         LockManager equal = bothSpared();
-        equal.undo();
         Setup.run(equal, "x05;x16;x06");
         asked("all are spared, equal work: the greatest birth", equal, 1, 5, EXCLUSIVE, 0b10, ABORTED);
+        CHECK.due("a third abort of the other", 3, equal.abortsOf(1));
     }
 
-    /** 0 and 1 have two aborts each; 0 holds 5 and waits for 6 of 1, which has done more work. */
+    /** 0 and 1 have been aborted twice each and have done the same work. */
     private static LockManager bothSpared() {
         LockManager m = abortedTwice();
         Setup.run(m, "x13;x03;x10");
         Setup.run(m, "x04;x14;x03");
         CHECK.due("two aborts of 0", 2, m.abortsOf(0));
         CHECK.due("two aborts of 1", 2, m.abortsOf(1));
-        int missing = m.workOf(1) - m.workOf(0);
-        m.work(0, missing);
+        m.work(0, m.workOf(1) - m.workOf(0));
         CHECK.due("equal work", m.workOf(1), m.workOf(0));
-        Setup.run(m, "x05;x16;w1,1;x06");
         return m;
     }
 
@@ -236,10 +224,11 @@ public final class DeadlocksTest {
         CHECK.due("a free one", GRANTED, m.ifRequested(0, 3, EXCLUSIVE));
         CHECK.due("one that it holds", GRANTED, m.ifRequested(0, 0, SHARED));
         CHECK.due("one that another holds", QUEUED, m.ifRequested(1, 0, SHARED));
-        CHECK.due("a ring with it as the victim", GRANTED, m.ifRequested(0, 2, EXCLUSIVE));
+        CHECK.due("a ring with the other as the victim", GRANTED, m.ifRequested(0, 2, EXCLUSIVE));
         CHECK.due("a waiting one", LockManager.NONE, m.ifRequested(2, 3, SHARED));
         CHECK.due("an idle one", LockManager.NONE, m.ifRequested(7, 3, SHARED));
-        Setup.run(m, "w2,0".replace("w2,0", "w0,1"));
+        LockManager n = Setup.ran("b0;b2;x00;w2,1;s22;x20");
+        CHECK.due("a ring with it as the victim", ABORTED, n.ifRequested(0, 2, EXCLUSIVE));
     }
 
     private static void promise25VictimsOf() {
@@ -253,7 +242,7 @@ public final class DeadlocksTest {
     }
 
     private static void promises24And25ChangeNothing() {
-        LockManager m = Setup.ran("b5;b0;b7;s00;s70;x51;w5,9;x01;s71");
+        LockManager m = Setup.ran(TWO_RINGS);
         String before = Snapshot.of(m);
         m.ifRequested(5, 0, EXCLUSIVE);
         m.victimsOf(5, 0, EXCLUSIVE);
