@@ -136,6 +136,8 @@ public final class DeadlocksTest {
     private static void promise3Spared() {
         LockManager once = Setup.ran("b0;b1;x00;x11;x01;x10;x12;x02");
         asked("one abort spares nobody", once, 1, 0, SHARED, 0b10, ABORTED);
+        LockManager lower = Setup.ran("b1;b0;x10;x01;x11;x00;x02;x12");
+        asked("nor does it spare the lower number", lower, 0, 0, SHARED, 0b01, ABORTED);
         LockManager twice = abortedTwice();
         Setup.run(twice, "x13;w0,1000;x03");
         asked("two aborts spare", twice, 1, 0, SHARED, 0b01, GRANTED);

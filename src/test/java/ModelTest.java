@@ -192,7 +192,6 @@ public final class ModelTest {
         }
     }
 
-
     private void askOne() {
         int t = number(8);
         int r = number(10);

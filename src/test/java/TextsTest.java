@@ -98,6 +98,9 @@ public final class TextsTest {
         LockManager x = Setup.withText("b3;x39");
         CHECK.due("two commands", 2, x.runText());
         CHECK.due("the exclusive lock", LockManager.EXCLUSIVE, x.held(3, 9));
+        LockManager withdrawn = Setup.withText("b0;b1;x00;x10;k1;w1,4");
+        CHECK.due("it goes on after it has withdrawn", 6, withdrawn.runText());
+        CHECK.due("the queue is empty", 0, withdrawn.queueLength(0));
         LockManager ring = Setup.withText("b0;b1;x00;x11;x01;x10;w1,7");
         CHECK.due("a deadlock in a text", 7, ring.runText());
         CHECK.due("is broken", 1, ring.brokenRings());
