@@ -131,6 +131,18 @@ public final class BoundaryDeadlocksTest {
         asked(check, "0, 3, 6 first, then 0, 3, 7", n, "s01", 0b01000001, ABORTED);
     }
 
+    @Sentence(of = "Section 4", says = EXAMINED)
+    static void section4AShorterWayThatLeadsNowhereIsNoRing(Check check) {
+        // 7 waits for 6 and for 1, but only 6, 5, 4 leads back to 7: 1 waits for 0, which is active.
+        LockManager m = Setup.ran("b0;b1;b4;b5;b6;b7;w4,9;w6,9;w7,9;x00;s11;s61;x77;x44;x55");
+        Setup.run(m, "x47;x54;x65;x10");
+        asked(check, "7, 6, 5, 4 beside 7, 1, 0", m, "x71", 0b00100000, QUEUED);
+        // The same with the way out at the third place, where 6 waits for 5 and for 1.
+        LockManager third = Setup.ran("b0;b1;b4;b5;b6;b7;w4,9;w6,9;w7,9;x00;s11;s51;x77;x44;x66");
+        Setup.run(third, "x47;x54;x61;x10");
+        asked(check, "7, 6, 5, 4 beside 7, 6, 1, 0", third, "x76", 0b00100000, QUEUED);
+    }
+
     private static final String REPEATED = "After the request of T has been put into a queue, the following is "
             + "repeated as long as T is WAITING and there is a ring of T: the victim of the ring that is examined is "
             + "aborted, and then the queues are served.";
@@ -182,6 +194,16 @@ public final class BoundaryDeadlocksTest {
     private static final String ABORT_2_TWICE = "x23;x20;x03;x24;x20;x04";
     private static final String ABORT_1_BY_2 = "x25;w2,100;x16;x15;x26";
 
+    /** The same with other numbers: 7 in place of 0, 6 in place of 1, 5 in place of 2. */
+    private static String mirrored(String text) {
+        StringBuilder other = new StringBuilder();
+        for (String command : text.split(";")) {
+            char transaction = (char) ('0' + '7' - command.charAt(1));
+            other.append(command.charAt(0)).append(transaction).append(command.substring(2)).append(';');
+        }
+        return other.substring(0, other.length() - 1);
+    }
+
     private static LockManager ranAll(String... texts) {
         LockManager m = new LockManager();
         for (String text : texts) {
@@ -190,17 +212,31 @@ public final class BoundaryDeadlocksTest {
         return m;
     }
 
+    private static LockManager ranAllMirrored(String... texts) {
+        String[] others = new String[texts.length];
+        for (int i = 0; i < texts.length; i++) {
+            others[i] = mirrored(texts[i]);
+        }
+        return ranAll(others);
+    }
+
+    private static final String[][] ABORTS_OF_1 = {{BASE}, {BASE, ABORT_1_ONCE}, {BASE, ABORT_1_ONCE, ABORT_1_TWICE},
+        {BASE, ABORT_1_ONCE, ABORT_1_TWICE, ABORT_2_TWICE, ABORT_1_BY_2}};
+
     @Sentence(of = "Section 4", says = "A transaction is spared if its abort count is 2 or more.")
     static void section4SparedFromTwoAbortsOn(Check check) {
-        LockManager[] managers = {ranAll(BASE), ranAll(BASE, ABORT_1_ONCE), ranAll(BASE, ABORT_1_ONCE, ABORT_1_TWICE),
-            ranAll(BASE, ABORT_1_ONCE, ABORT_1_TWICE, ABORT_2_TWICE, ABORT_1_BY_2)};
-        for (int aborts = 0; aborts < managers.length; aborts++) {
-            LockManager m = managers[aborts];
+        for (int aborts = 0; aborts < ABORTS_OF_1.length; aborts++) {
+            boolean spared = aborts >= 2;
+            LockManager m = ranAll(ABORTS_OF_1[aborts]);
             check.due("abortsOf(1)", aborts, m.abortsOf(1));
             Setup.run(m, "x17;x10");
-            boolean spared = aborts >= 2;
             asked(check, aborts + " aborts", m, "x07", spared ? 0b01 : 0b10, spared ? ABORTED : GRANTED);
             check.due("abortsOf(1) afterwards", spared ? aborts : aborts + 1, m.abortsOf(1));
+            LockManager other = ranAllMirrored(ABORTS_OF_1[aborts]);
+            check.due("abortsOf(6)", aborts, other.abortsOf(6));
+            Setup.run(other, "x67;x60");
+            asked(check, aborts + " aborts of the lower number", other, "x77", spared ? 0b10000000 : 0b01000000,
+                    spared ? ABORTED : GRANTED);
         }
     }
 
@@ -209,22 +245,30 @@ public final class BoundaryDeadlocksTest {
 
     @Sentence(of = "Section 4", says = CHOSEN)
     static void section4ChosenAmongThoseThatAreNotSpared(Check check) {
-        LockManager one = ranAll(BASE, ABORT_1_ONCE, ABORT_1_TWICE, ABORT_2_TWICE);
-        Setup.run(one, "x17;x28;x18;x20");
-        asked(check, "one of three is not spared", one, "x07", 0b001, ABORTED);
-        LockManager two = ranAll(BASE, ABORT_1_ONCE, ABORT_1_TWICE);
-        Setup.run(two, "w2,5;x17;x28;x18;x20");
-        asked(check, "two of three are not spared", two, "x07", 0b100, QUEUED);
+        String one = "x17;x28;x18;x20";
+        LockManager first = ranAll(BASE, ABORT_1_ONCE, ABORT_1_TWICE, ABORT_2_TWICE, one);
+        asked(check, "the first of three is not spared", first, "x07", 0b001, ABORTED);
+        LockManager last = ranAllMirrored(BASE, ABORT_1_ONCE, ABORT_1_TWICE, ABORT_2_TWICE, one);
+        asked(check, "the last of three is not spared", last, "x77", 0b10000000, ABORTED);
+        String two = "w2,5;x17;x28;x18;x20";
+        LockManager second = ranAll(BASE, ABORT_1_ONCE, ABORT_1_TWICE, two);
+        asked(check, "the second of three is spared", second, "x07", 0b100, QUEUED);
+        LockManager middle = ranAllMirrored(BASE, ABORT_1_ONCE, ABORT_1_TWICE, two);
+        asked(check, "the second of three is spared, with other numbers", middle, "x77", 0b00100000, QUEUED);
     }
 
     @Sentence(of = "Section 4", says = CHOSEN)
     static void section4ChosenAmongAllIfAllAreSpared(Check check) {
-        LockManager m = ranAll(BASE, ABORT_1_ONCE, ABORT_1_TWICE, ABORT_2_TWICE);
+        String[] spared = {BASE, ABORT_1_ONCE, ABORT_1_TWICE, ABORT_2_TWICE};
+        LockManager m = ranAll(spared);
         Setup.run(m, "x25;x16;w2,1;x15");
         asked(check, "all are spared", m, "x26", 0b010, GRANTED);
-        LockManager equal = ranAll(BASE, ABORT_1_ONCE, ABORT_1_TWICE, ABORT_2_TWICE);
+        LockManager equal = ranAll(spared);
         Setup.run(equal, "x25;x16;x15");
         asked(check, "all are spared, with the same work", equal, "x26", 0b100, ABORTED);
+        LockManager other = ranAllMirrored(spared);
+        Setup.run(other, "x55;x66;w5,1;x65");
+        asked(check, "all are spared, with other numbers", other, "x56", 0b01000000, GRANTED);
     }
 
     private static final String LEAST = "It is the one with the least work; among several with the same work it is "

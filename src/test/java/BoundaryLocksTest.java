@@ -36,7 +36,8 @@ public final class BoundaryLocksTest {
 
     // ---- 1. TRANSACTIONS AND RESOURCES
 
-    @Sentence(of = "Section 1", says = "There are eight transactions, numbered 0 to 7, and ten resources, numbered 0 to 9.")
+    @Sentence(of = "Section 1", says = "There are eight transactions, numbered 0 to 7, "
+            + "and ten resources, numbered 0 to 9.")
     static void section1EightTransactionsAndTenResources(Check check) {
         for (int t = 0; t < 8; t++) {
             for (int r = 0; r < 10; r++) {
@@ -89,7 +90,8 @@ public final class BoundaryLocksTest {
         return m.workOf(t) + " " + m.abortsOf(t) + " " + m.birthOf(t);
     }
 
-    @Sentence(of = "Section 1", says = "Birth numbers are given in ascending order, from 0 on, when transactions begin.")
+    @Sentence(of = "Section 1", says = "Birth numbers are given in ascending order, from 0 on, "
+            + "when transactions begin.")
     static void section1BirthNumbersAscendFromZero(Check check) {
         LockManager m = new LockManager();
         check.due("the first", 0, m.begin(7));

@@ -294,22 +294,30 @@ public final class BoundaryQueriesTest {
         answers(check, "blockers", m, LockManager::blockers, 1, 0, 0, 0, 0, 0, 0, 1);
     }
 
-    @Sentence(of = "Promise 20", says = "Returns the number of transactions without whose progress a transaction cannot "
-            + "go on: those for which it waits, those for which these wait, and so on.")
+    @Sentence(of = "Promise 20", says = "Returns the number of transactions without whose progress a transaction "
+            + "cannot go on: those for which it waits, those for which these wait, and so on.")
     static void promise20FromNobodyToAChainOfAll(Check check) {
         answers(check, "blockers", new LockManager(), LockManager::blockers, 0, 0, 0, 0, 0, 0, 0, 0);
-        LockManager up = Setup.begun(8);
-        LockManager down = Setup.begun(8);
+        for (int last = 0; last < 8; last++) {
+            LockManager up = chainOfAll(last, 7);
+            LockManager down = chainOfAll(last, 1);
+            for (int ahead = 0; ahead < 8; ahead++) {
+                check.due("blockers, ascending to " + last, ahead, up.blockers((last + 7 * ahead) % 8));
+                check.due("blockers, descending to " + last, ahead, down.blockers((last + ahead) % 8));
+            }
+        }
+    }
+
+    /** All hold one resource each, and each one but the last waits for the next one. */
+    private static LockManager chainOfAll(int last, int step) {
+        LockManager m = Setup.begun(8);
         for (int t = 0; t < 8; t++) {
-            up.request(t, t, EXCLUSIVE);
-            down.request(t, t, EXCLUSIVE);
+            m.request(t, t, EXCLUSIVE);
         }
-        for (int t = 0; t < 7; t++) {
-            up.request(t, t + 1, SHARED);
-            down.request(t + 1, t, SHARED);
+        for (int i = 1; i < 8; i++) {
+            m.request((last + step * i) % 8, (last + step * (i - 1)) % 8, SHARED);
         }
-        answers(check, "blockers", up, LockManager::blockers, 7, 6, 5, 4, 3, 2, 1, 0);
-        answers(check, "blockers", down, LockManager::blockers, 0, 1, 2, 3, 4, 5, 6, 7);
+        return m;
     }
 
     @Sentence(of = "Promise 20", says = "Returns the number of these transactions, without the transaction itself.")
@@ -399,7 +407,8 @@ public final class BoundaryQueriesTest {
         answers(check, "queued", m, (n, i) -> n.queued(4, i), 71, 62, 51, 42, 31, 22, 11);
     }
 
-    @Sentence(of = "Promise 23", says = "Returns 10 * transaction + mode; NONE if the queue does not have so many requests.")
+    @Sentence(of = "Promise 23", says = "Returns 10 * transaction + mode; NONE if the queue does not have "
+            + "so many requests.")
     static void promise23BehindTheEndOfEachQueue(Check check) {
         for (int requests = 0; requests <= 7; requests++) {
             LockManager m = Setup.ran("b0;b1;b2;b3;b4;b5;b6;b7;x70;x79;x71");
@@ -466,7 +475,8 @@ public final class BoundaryQueriesTest {
     static void promise24NotActiveAndEachResult(Check check) {
         answers(check, "ifRequested", new LockManager(), (m, t) -> m.ifRequested(t, 0, SHARED), -1, -1, -1, -1, -1, -1,
                 -1, -1);
-        answers(check, "ifRequested for 9", ends(), (m, t) -> m.ifRequested(t, 9, SHARED), -1, -1, -1, 2, -1, -1, -1, 1);
+        answers(check, "ifRequested for 9", ends(), (m, t) -> m.ifRequested(t, 9, SHARED), -1, -1, -1, 2, -1, -1, -1,
+                1);
         check.due("what it holds already, waiting", NONE, Setup.ran("b0;b1;x00;s11;x10").ifRequested(1, 1, SHARED));
         check.due("a free one", 1, Setup.ran("b0").ifRequested(0, 0, EXCLUSIVE));
         check.due("one that another holds", 2, Setup.ran("b0;b1;x00").ifRequested(1, 0, EXCLUSIVE));
@@ -517,6 +527,8 @@ public final class BoundaryQueriesTest {
         answers(check, "victimsOf", new LockManager(), (m, t) -> m.victimsOf(t, 0, SHARED), 0, 0, 0, 0, 0, 0, 0, 0);
         check.due("a waiting one", 0, Setup.ran("b0;b1;x00;x11;x10").victimsOf(1, 0, EXCLUSIVE));
         check.due("a waiting one that holds", 0, Setup.ran("b0;b1;b2;s00;s10;x00").victimsOf(0, 0, EXCLUSIVE));
+        LockManager waiting = Setup.ran("b0;b1;b2;x00;x11;x22;x21;x10");
+        check.due("a waiting one, for which another one waits", 0, waiting.victimsOf(1, 2, EXCLUSIVE));
         check.due("an idle one", 0, Setup.ran("b0;x00").victimsOf(1, 0, EXCLUSIVE));
         check.due("a free one", 0, Setup.ran("b0").victimsOf(0, 0, EXCLUSIVE));
         check.due("itself", 0b10, Setup.ran("b0;b1;x00;x11;x01").victimsOf(1, 0, EXCLUSIVE));
@@ -570,10 +582,16 @@ public final class BoundaryQueriesTest {
         m.commit(0);
         m.commit(1);
         check.due("it stays when all have ended", 1002, m.lostWork());
+        LockManager much = Setup.ran("b0;b1;x00;x11");
+        for (int i = 0; i < 400; i++) {
+            much.work(i % 2, 1000);
+        }
+        Setup.run(much, "x10;x01");
+        check.due("much work", 200001, much.lostWork());
     }
 
-    @Sentence(of = "Promise 28", says = "Returns the number of locks that are held; a lock of a transaction on a resource "
-            + "counts once.")
+    @Sentence(of = "Promise 28", says = "Returns the number of locks that are held; a lock of a transaction on a "
+            + "resource counts once.")
     static void promise28FromNoneToEighty(Check check) {
         LockManager m = Setup.begun(8);
         check.due("at first", 0, m.locksHeld());

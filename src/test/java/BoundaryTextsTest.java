@@ -117,8 +117,8 @@ public final class BoundaryTextsTest {
         }
     }
 
-    @Sentence(of = "Section 6", says = "\"bt\": begin; - \"str\": request a SHARED lock; - \"xtr\": request an EXCLUSIVE "
-            + "lock; - \"wt,n\": do work; - \"ct\": commit; - \"at\": roll back; - \"kt\": withdraw.")
+    @Sentence(of = "Section 6", says = "\"bt\": begin; - \"str\": request a SHARED lock; - \"xtr\": request an "
+            + "EXCLUSIVE lock; - \"wt,n\": do work; - \"ct\": commit; - \"at\": roll back; - \"kt\": withdraw.")
     static void section6SevenCommandsAndNoOther(Check check) {
         for (char sign = 32; sign <= 126; sign++) {
             error(check, "" + sign, "bsxwcak".indexOf(sign) >= 0 ? 1 : 0);
@@ -155,8 +155,8 @@ public final class BoundaryTextsTest {
         error(check, "b0;s8", 4);
     }
 
-    private static final String TOO_EARLY = "If there is no such index and the text is not valid (it ends too early, or "
-            + "it is empty), the error position is the length of the text.";
+    private static final String TOO_EARLY = "If there is no such index and the text is not valid (it ends too early, "
+            + "or it is empty), the error position is the length of the text.";
 
     @Sentence(of = "Section 6", says = ERROR)
     static void section6AFullTextMayGoOnInALongerOne(Check check) {
@@ -266,6 +266,10 @@ public final class BoundaryTextsTest {
         for (Supplier<LockManager> scene : Scenes.ALL) {
             Traces.none(check, "errorPosition", scene, LockManager::errorPosition);
         }
+        for (String text : new String[] {"~b0", "b0;~;b1", "b0;b1~", FULL.substring(0, 40) + "~"}) {
+            Supplier<LockManager> wrong = () -> Setup.withText(text);
+            Traces.none(check, "errorPosition of " + text, wrong, LockManager::errorPosition);
+        }
     }
 
     @Sentence(of = "Promise 10", says = "Returns NONE if the text is valid, otherwise its error position.")
@@ -284,8 +288,10 @@ public final class BoundaryTextsTest {
         check.due("runText of " + text, due, Setup.withText(text).runText());
     }
 
-    @Sentence(of = "Promise 11", says = "Executes the commands of the text in their order, as begin(), request(), work(), "
-            + "commit(), rollBack() and withdraw() do.")
+    private static final String EXECUTES = "Executes the commands of the text in their order, as begin(), request(), "
+            + "work(), commit(), rollBack() and withdraw() do.";
+
+    @Sentence(of = "Promise 11", says = EXECUTES)
     static void promise11OneCommandAndTheMost(Check check) {
         LockManager one = Setup.withText("b7");
         check.due("one command", 1, one.runText());
@@ -295,10 +301,9 @@ public final class BoundaryTextsTest {
         check.due("birthOf", 13, most.birthOf(0));
     }
 
-    @Sentence(of = "Promise 11", says = "Executes the commands of the text in their order, as begin(), request(), work(), "
-            + "commit(), rollBack() and withdraw() do.")
+    @Sentence(of = "Promise 11", says = EXECUTES)
     static void promise11DoesWhatTheMethodsDo(Check check) {
-        LockManager text = Setup.ran("b0;b1;w0,1000;x00;x11;s10;x01;w1,1;b2;x20;k2;s29;a2;c0");
+        LockManager text = Setup.ran("b0;b1;w0,1000;x00;x11;s10;x01;b2;x20;k2;b3;s29;a2;s38;x05;c0;b7;s39;x79;w3,1");
         LockManager calls = new LockManager();
         calls.begin(0);
         calls.begin(1);
@@ -307,14 +312,23 @@ public final class BoundaryTextsTest {
         calls.request(1, 1, LockManager.EXCLUSIVE);
         calls.request(1, 0, LockManager.SHARED);
         calls.request(0, 1, LockManager.EXCLUSIVE);
-        calls.work(1, 1);
+        check.due("lostWork of the calls", 1, calls.lostWork());
         calls.begin(2);
         calls.request(2, 0, LockManager.EXCLUSIVE);
         calls.withdraw(2);
+        calls.begin(3);
         calls.request(2, 9, LockManager.SHARED);
         calls.rollBack(2);
+        calls.request(3, 8, LockManager.SHARED);
+        calls.request(0, 5, LockManager.EXCLUSIVE);
         calls.commit(0);
+        calls.begin(7);
+        calls.request(3, 9, LockManager.SHARED);
+        calls.request(7, 9, LockManager.EXCLUSIVE);
+        calls.work(3, 1);
         check.due("the state", Snapshot.stateOf(calls), Snapshot.stateOf(text));
+        LockManager works = Setup.ran("b0;w0,1;w0,10;w0,100;w0,1000");
+        check.due("work from 1 to 1000", 1111, works.workOf(0));
     }
 
     private static final String ENDS = "Execution ends before the first command for which the method would throw an "

@@ -338,8 +338,8 @@ public final class BoundaryTransactionsTest {
 
     // ---- Promise 6: commit
 
-    @Sentence(of = "Promise 6", says = "Commits a transaction: all its locks are released, it becomes IDLE, and then the "
-            + "queues are served.")
+    @Sentence(of = "Promise 6", says = "Commits a transaction: all its locks are released, it becomes IDLE, and then "
+            + "the queues are served.")
     static void promise6WithNoLockAndWithAllLocks(Check check) {
         LockManager none = Setup.ran("b0;b1;x10");
         check.due("with no lock", 0, none.commit(0));
@@ -409,8 +409,8 @@ public final class BoundaryTransactionsTest {
 
     // ---- Promise 7: rollBack
 
-    @Sentence(of = "Promise 7", says = "Rolls a transaction back: its request, if it has one, is removed from its queue, "
-            + "all its locks are released, it becomes IDLE, and then the queues are served.")
+    @Sentence(of = "Promise 7", says = "Rolls a transaction back: its request, if it has one, is removed from its "
+            + "queue, all its locks are released, it becomes IDLE, and then the queues are served.")
     static void promise7WithAndWithoutARequest(Check check) {
         LockManager nothing = Setup.begun(1);
         check.due("without anything", 0, nothing.rollBack(0));

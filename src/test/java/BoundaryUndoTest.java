@@ -37,6 +37,12 @@ public final class BoundaryUndoTest {
         return m;
     }
 
+    private static LockManager tangledWith(String text) {
+        LockManager m = tangled();
+        Setup.append(m, text);
+        return m;
+    }
+
     @Sentence(of = "Section 7", says = "The state consists of everything in sections 1 to 5.")
     static void section7AllOfTheStateComesBack(Check check) {
         Undoable.in(check, BoundaryUndoTest::tangled, "begin", m -> m.begin(7));
@@ -47,6 +53,7 @@ public final class BoundaryUndoTest {
         Undoable.in(check, BoundaryUndoTest::tangled, "a withdrawal at the end", m -> m.withdraw(2));
         Undoable.in(check, BoundaryUndoTest::tangled, "a commit", m -> m.commit(1));
         Undoable.in(check, BoundaryUndoTest::tangled, "a rollBack", m -> m.rollBack(0));
+        Undoable.in(check, () -> tangledWith("k0;s02;k2;x21"), "other modes and resources", LockManager::runText);
         LockManager ring = tangled();
         int lost = ring.lostWork();
         ring.request(1, 0, EXCLUSIVE);
@@ -101,8 +108,8 @@ public final class BoundaryUndoTest {
         check.due("no more", Refused.STATE.getName(), Refused.answer(m, LockManager::undo));
     }
 
-    private static final String SAVES = "A method that is marked \"Undoable\" saves the state as it was before the call, "
-            + "unless the call throws an exception.";
+    private static final String SAVES = "A method that is marked \"Undoable\" saves the state as it was before the "
+            + "call, unless the call throws an exception.";
 
     @Sentence(of = "Section 7", says = SAVES)
     static void section7EachUndoableMethodSavesOneState(Check check) {
@@ -124,8 +131,7 @@ public final class BoundaryUndoTest {
 
     /** With two saved states before it, and with eight. */
     private static void saves(Check check, String what, int states, ToIntFunction<LockManager> call) {
-        LockManager m = tangled();
-        Setup.append(m, "b6;w6,5;k2");
+        LockManager m = tangledWith("b6;w6,5;k2");
         check.due("savedStates before " + what, 2, m.savedStates());
         call.applyAsInt(m);
         check.due("savedStates after " + what, 2 + states, m.savedStates());
@@ -222,7 +228,8 @@ public final class BoundaryUndoTest {
         while (!works.isEmpty()) {
             int due = works.removeLast();
             check.due("undo", works.size(), m.undo());
-            check.due("workOf after " + first + " calls, " + undos + " undos and " + second + " calls", due, m.workOf(0));
+            String what = "workOf after " + first + " calls, " + undos + " undos and " + second + " calls";
+            check.due(what, due, m.workOf(0));
         }
         check.due("savedStates", 0, m.savedStates());
     }

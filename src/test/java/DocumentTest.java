@@ -67,8 +67,7 @@ public final class DocumentTest {
         Map<String, List<String>> quotations = quotations();
         quotations.forEach((heading, sentences) -> findAll(heading, sentences, texts.getOrDefault(heading, "")));
         texts.forEach((heading, text) -> accountFor(heading, text, quotations.getOrDefault(heading, List.of())));
-        CHECK.due("the headings of the document", "[What it is, Terms, Section 1, Section 2, Section 3, Section 4, "
-                + "Section 5, Section 6, Section 7, Section 8]", new ArrayList<>(texts.keySet()).subList(0, 10).toString());
+        CHECK.due("the headings of the document", 2 + 8 + 30, texts.size());
         CHECK.end();
     }
 
@@ -104,7 +103,7 @@ public final class DocumentTest {
                 Sentence sentence = method.getAnnotation(Sentence.class);
                 quotations.computeIfAbsent(sentence.of(), key -> new ArrayList<>()).add(sentence.says());
                 CHECK.due(method.getName() + " bears the name of its heading", 1,
-                        method.getName().startsWith(nameOf(sentence.of())) ? 1 : 0);
+                        method.getName().matches(nameOf(sentence.of()) + "\\D.*") ? 1 : 0);
             }
         }
         for (String[] sentence : WITHOUT_BOUNDARY) {

@@ -41,6 +41,7 @@ final class Traces {
         StringBuilder births = new StringBuilder();
         for (int t = 0; t < 8; t++) {
             int transaction = t;
+            Refused.answer(m, n -> n.rollBack(transaction));
             births.append(Refused.answer(m, n -> n.begin(transaction))).append(' ');
         }
         return births.toString();
