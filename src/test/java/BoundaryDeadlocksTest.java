@@ -56,6 +56,23 @@ public final class BoundaryDeadlocksTest {
         check.due("not for one in another queue", 0b0101, other.waitsFor(3));
     }
 
+    @Sentence(of = "Section 4", says = WAITS_FOR)
+    static void section4WaitsForThoseAheadInWhateverOrderAtEachResource(Check check) {
+        int[] order = {7, 5, 6, 1, 3, 2};
+        int[] modes = {EXCLUSIVE, SHARED, SHARED, EXCLUSIVE, SHARED, EXCLUSIVE};
+        int[] due = {0b00000001, 0b10000001, 0b10000001, 0b11100001, 0b10000011, 0b11101011};
+        for (int r = 0; r < 10; r++) {
+            LockManager m = Setup.begun(8);
+            m.request(0, r, EXCLUSIVE);
+            for (int i = 0; i < order.length; i++) {
+                m.request(order[i], r, modes[i]);
+            }
+            for (int i = 0; i < order.length; i++) {
+                check.due("waitsFor(" + order[i] + ") at " + r, due[i], m.waitsFor(order[i]));
+            }
+        }
+    }
+
     private static final String RING = "A ring of T is a sequence of different transactions that begins with T, in "
             + "which each transaction waits for the next one, and the last one waits for T.";
 
@@ -89,6 +106,18 @@ public final class BoundaryDeadlocksTest {
             m.request(t, t + 1, EXCLUSIVE);
         }
         return m;
+    }
+
+    @Sentence(of = "Section 4", says = RING)
+    static void section4ARingOverEachOneOfThoseThatWait(Check check) {
+        // 0, 2 and 7 wait for 5, but 1 waits for one of them alone, and 5 comes to wait for 1.
+        for (int next : new int[] {0, 2, 7}) {
+            LockManager m = Setup.ran("b5;b0;b1;b2;b7;w5,9;w0,9;w2,9;w7,9;x51;x10");
+            m.request(next, 2, EXCLUSIVE);
+            Setup.run(m, "s01;s21;s71;x12");
+            asked(check, "5, 1, " + next, m, "x50", 0b10, GRANTED);
+            check.due("1 waits for nobody", 0, m.waitsFor(1));
+        }
     }
 
     private static final String EXAMINED = "The ring that is examined is the shortest one; among several shortest "

@@ -235,6 +235,39 @@ public final class BoundaryLocksTest {
         }
     }
 
+    @Sentence(of = "Section 2", says = "If T holds a SHARED lock on the resource, the request is an upgrade. It is "
+            + "put into the queue behind all upgrades and ahead of all other requests.")
+    static void section2AnUpgradeAtEachResourceWithLocksAndUpgradesElsewhere(Check check) {
+        for (int i = 0; i < 100; i++) {
+            int here = i / 10;
+            int there = i % 10;
+            if (here != there) {
+                upgradeHere(check, here, there);
+            }
+        }
+    }
+
+    /** All hold all resources but these two; there, 4 waits for an upgrade, ahead of 6. */
+    private static void upgradeHere(Check check, int here, int there) {
+        LockManager m = Setup.begun(8);
+        for (int i = 0; i < 80; i++) {
+            int resource = i % 10;
+            if (resource != here && resource != there) {
+                m.request(i / 10, resource, SHARED);
+            }
+        }
+        Setup.run(m, "s4t;s5t;x6t;x4t;s0h;s7h;x2h;s3h".replace('t', (char) ('0' + there))
+                .replace('h', (char) ('0' + here)));
+        String what = "upgrade at " + here + " with one at " + there;
+        check.due(what, QUEUED, m.request(0, here, EXCLUSIVE));
+        int[] due = {2, 22, 31, NONE};
+        for (int i = 0; i < due.length; i++) {
+            check.due(what + ": queued " + i, due[i], m.queued(here, i));
+        }
+        check.due(what + ": the first there", 42, m.queued(there, 0));
+        check.due(what + ": the second there", 62, m.queued(there, 1));
+    }
+
     @Sentence(of = "Section 2", says = "behind all upgrades")
     static void section2ASecondUpgradeMakesAQueueOfEight(Check check) {
         LockManager m = Setup.ran("b0;b1;b2;b3;b4;b5;b6;b7;s00;s10;x20;s30;x40;s50;x60;s70;w0,9;x00");

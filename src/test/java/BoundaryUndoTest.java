@@ -64,6 +64,46 @@ public final class BoundaryUndoTest {
     }
 
     @Sentence(of = "Section 7", says = "The state consists of everything in sections 1 to 5.")
+    static void section7TheWholeQueueOfEachResourceComesBack(Check check) {
+        for (int r = 0; r < 10; r++) {
+            int resource = r;
+            for (int mode = SHARED; mode <= EXCLUSIVE; mode++) {
+                int first = mode;
+                Supplier<LockManager> full = () -> fullQueue(resource, first);
+                Undoable.in(check, full, "a rollBack with a queue of seven", m -> m.rollBack(0));
+                Undoable.in(check, full, "a withdrawal at its head", m -> m.withdraw(1));
+                Undoable.in(check, full, "a withdrawal at its end", m -> m.withdraw(7));
+            }
+        }
+    }
+
+    /** 0 holds the resource, and 1 to 7 wait for it, each second one for an exclusive lock. */
+    private static LockManager fullQueue(int resource, int firstMode) {
+        LockManager m = Setup.begun(8);
+        m.request(0, resource, EXCLUSIVE);
+        for (int t = 1; t < 8; t++) {
+            m.request(t, resource, t % 2 == 1 ? firstMode : SHARED + EXCLUSIVE - firstMode);
+        }
+        return m;
+    }
+
+    @Sentence(of = "Section 7", says = "The state consists of everything in sections 1 to 5.")
+    static void section7TheModeOfEachRequestComesBack(Check check) {
+        for (int t = 0; t < 8; t++) {
+            int other = (t + 1) % 8;
+            String start = "b" + t + ";b" + other + ";x" + other + "4;";
+            for (String[] modes : new String[][] {{"s", "x"}, {"x", "s"}}) {
+                Supplier<LockManager> waiting = () -> {
+                    LockManager m = Setup.ran(start + modes[0] + start.charAt(1) + "4");
+                    Setup.append(m, "k" + start.charAt(1) + ";" + modes[1] + start.charAt(1) + "4");
+                    return m;
+                };
+                Undoable.in(check, waiting, "another mode of " + t, LockManager::runText);
+            }
+        }
+    }
+
+    @Sentence(of = "Section 7", says = "The state consists of everything in sections 1 to 5.")
     static void section7TheNextBirthNumberComesBackToo(Check check) {
         LockManager m = Setup.begun(2);
         m.begin(2);

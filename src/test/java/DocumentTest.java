@@ -11,41 +11,18 @@ import java.util.regex.Matcher;
 import java.util.regex.Pattern;
 
 /**
- * Accounts for the document: each of its sentences is quoted by a test, or stands below among
- * those that name no boundary case, and each quotation stands in the document.
+ * Accounts for the document: each of its sentences is quoted by a test, but for the one that leaves
+ * all free, and each quotation stands in the document.
  */
 public final class DocumentTest {
     private static final Check CHECK = new Check();
 
     private static final Class<?>[] TESTS = {BoundaryLocksTest.class, BoundaryDeadlocksTest.class,
         BoundaryTextsTest.class, BoundaryUndoTest.class, BoundaryExceptionsTest.class,
-        BoundaryTransactionsTest.class, BoundaryQueriesTest.class};
+        BoundaryTransactionsTest.class, BoundaryQueriesTest.class, PlainSentencesTest.class};
 
-    private static final String[][] WITHOUT_BOUNDARY = {
-        {"What it is", "A lock manager for transactions (strict two-phase locking) that finds deadlocks when a request "
-            + "has to wait, and that breaks each of them by aborting the transaction of the ring that has done the "
-            + "least work."},
-        {"What it is", "what later calls answer is free."},
-        {"Terms", "All quantities are integers."},
-        {"Section 1", "A request has a transaction and a mode."},
-        {"Section 2", "A request of an ACTIVE transaction T for a lock on a resource is handled by the first of the "
-            + "following rules that applies:"},
-        {"Section 6", "A command is one of the following, where"},
-        {"Promise 3", "Requests a lock (section 2)."},
-        {"Promise 4", "Adds work to a transaction."},
-        {"Promise 13", "Returns the state of a transaction."},
-        {"Promise 14", "Returns the work of a transaction."},
-        {"Promise 15", "Returns the abort count of a transaction."},
-        {"Promise 16", "Returns the birth number of a transaction."},
-        {"Promise 17", "Returns the mode of the lock that a transaction holds on a resource."},
-        {"Promise 18", "Returns the resource in whose queue the request of a transaction is."},
-        {"Promise 19", "Returns the transactions for which a transaction waits (section 4)."},
-        {"Promise 21", "Returns the transactions that hold a lock on a resource."},
-        {"Promise 22", "Returns the number of requests in the queue of a resource."},
-        {"Promise 23", "Returns a request in the queue of a resource."},
-        {"Promise 24", "Tells what request() would return now."},
-        {"Promise 25", "Tells which transactions would be victims if request() was called now."},
-    };
+    // Nothing can be tested of it.
+    private static final String[] FREE = {"What it is", "what later calls answer is free."};
 
     // The face and what is free; FaceTest looks at the first.
     private static final List<String> LEFT_OUT = List.of("The public face", "Not promised");
@@ -106,14 +83,13 @@ public final class DocumentTest {
                         method.getName().matches(nameOf(sentence.of()) + "\\D.*") ? 1 : 0);
             }
         }
-        for (String[] sentence : WITHOUT_BOUNDARY) {
-            quotations.computeIfAbsent(sentence[0], key -> new ArrayList<>()).add(sentence[1]);
-        }
+        quotations.computeIfAbsent(FREE[0], key -> new ArrayList<>()).add(FREE[1]);
         return quotations;
     }
 
     private static String nameOf(String heading) {
-        return heading.equals("What it is") ? "whatItIs" : heading.replace(" ", "").replace('P', 'p').replace('S', 's');
+        String name = heading.equals("What it is") ? "WhatItIs" : heading.replace(" ", "");
+        return Character.toLowerCase(name.charAt(0)) + name.substring(1);
     }
 
     private static void findAll(String heading, List<String> sentences, String text) {
